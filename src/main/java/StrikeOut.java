@@ -38,7 +38,7 @@ public final class StrikeOut {
     private final Blank[] blanks;
     private int blankCount;
     /** A DEED that is not told is a row of none. */
-    private final Row[] deeds;
+    private final Row[] deedRows;
     private Law law;
     /** A TEXT is read into this one, so that a FAULT leaves the LAW before as it was. */
     private Law draft;
@@ -63,13 +63,13 @@ public final class StrikeOut {
             blanks[b] = new Blank();
         }
         blankCount = 0;
-        deeds = new Row[DEEDS];
+        deedRows = new Row[DEEDS];
         for (int i = 0; i < DEEDS; i++) {
-            deeds[i] = new Row(DEED_ROOM);
+            deedRows[i] = new Row(DEED_ROOM);
         }
         law = new Law();
         draft = new Law();
-        reader = new LawReader();
+        reader = new LawReader(tape.bytes, draft);
         pages = new Book();
         today = 0;
         drawn = 1;
@@ -125,8 +125,8 @@ public final class StrikeOut {
         }
         boolean fine = tape.holdsLetters(n);
         if (fine) {
-            tape.copyLetters(n, deeds[i]);
-            forgetCover();
+            tape.copyLetters(n, deedRows[i]);
+            forgetSolved();
         }
         tape.size = 0;
         return fine ? n : CANNOT;
@@ -136,7 +136,7 @@ public final class StrikeOut {
         if (n < 1 || n > TEXT_ROOM || n > tape.size) {
             return NONE;
         }
-        int answer = reader.read(tape.bytes, n, draft);
+        int answer = reader.read(n, draft);
         tape.size = 0;
         if (answer >= 0) {
             Law before = law;
@@ -213,17 +213,18 @@ public final class StrikeOut {
             return NONE;
         }
         // Every gap is made of strokes of one letter, so no choice is left out.
-        return fits.evenChoices(blanks[b].rest, deeds[i], 1);
+        return fits.evenChoices(blanks[b].rest, deedRows[i], 1);
     }
 
     public int cheapest(int b, int i, int clerk, int what) {
         if (!isBlank(b) || !isDeed(i) || !isClerk(clerk)) {
             return NONE;
         }
-        if (what < NONE || what >= deeds[i].size) {
+        if (what < NONE || what >= deedRows[i].size) {
             return NONE;
         }
-        int price = chooseCheapest(b, i, clerk);
+        askLaw(b, 0, blanks[b].rest.size, clerk);
+        int price = choice.choose(blanks[b].rest, deedRows[i]);
         if (price == NONE) {
             return CANNOT;
         }
@@ -234,16 +235,17 @@ public final class StrikeOut {
         if (!isBlank(b) || !isDeed(i) || !isClerk(clerk)) {
             return NONE;
         }
-        if (chooseCheapest(b, i, clerk) == NONE) {
+        int end = blanks[b].rest.size;
+        askLaw(b, 0, end, clerk);
+        if (choice.choose(blanks[b].rest, deedRows[i]) == NONE) {
             return CANNOT;
         }
-        int kept = deeds[i].size;
-        int needed = countGapStrokes(kept, blanks[b].rest.size);
+        int kept = deedRows[i].size;
+        int needed = countGapStrokes(kept, end);
         if (!pages.hasRoom(needed)) {
             return NO_ROOM;
         }
         // From the end back, so that the places ahead keep the prices that were asked for them.
-        int end = blanks[b].rest.size;
         for (int k = kept - 1; k >= 0; k--) {
             strikeGap(b, choice.stays[k] + 1, end, clerk);
             end = choice.stays[k];
@@ -256,7 +258,7 @@ public final class StrikeOut {
         if (!isBlank(b) || !isDeed(i) || !isWidth(w)) {
             return NONE;
         }
-        int fewest = fits.fewestStrokes(blanks[b].rest, deeds[i], w);
+        int fewest = fits.fewestStrokes(blanks[b].rest, deedRows[i], w);
         return fewest >= NEVER ? CANNOT : fewest;
     }
 
@@ -264,7 +266,7 @@ public final class StrikeOut {
         if (!isBlank(b) || !isDeed(i) || !isWidth(w)) {
             return NONE;
         }
-        return fits.evenChoices(blanks[b].rest, deeds[i], w);
+        return fits.evenChoices(blanks[b].rest, deedRows[i], w);
     }
 
     // ---- several deeds ----
@@ -274,9 +276,12 @@ public final class StrikeOut {
         if (!areDeeds(deeds) || many < 2 || many > 3 || what < NONE) {
             return NONE;
         }
-        Row first = deedOf(deeds, 0);
-        // Of two deeds the first one stands for a third: that hides nothing more.
-        hiding.solve(first, deedOf(deeds, 1), many == 3 ? deedOf(deeds, 2) : first);
+        if (hiding.solvedFor != deeds) {
+            Row first = deedAmong(deeds, 0);
+            // Of two deeds the first one stands for a third: that hides nothing more.
+            hiding.solve(first, deedAmong(deeds, 1), many == 3 ? deedAmong(deeds, 2) : first);
+            hiding.solvedFor = deeds;
+        }
         return what == NONE ? hiding.found.size : hiding.found.at(what);
     }
 
@@ -288,8 +293,8 @@ public final class StrikeOut {
         if (refusal != 0) {
             return refusal;
         }
-        solveCover(deeds);
-        return what == NONE ? cover.first.size : cover.first.at(what);
+        Row row = coverFor(deeds).first;
+        return what == NONE ? row.size : row.at(what);
     }
 
     public long shortestMany(int deeds) {
@@ -297,8 +302,7 @@ public final class StrikeOut {
         if (refusal != 0) {
             return refusal;
         }
-        solveCover(deeds);
-        return cover.howMany();
+        return coverFor(deeds).howMany();
     }
 
     public int bound(int deeds) {
@@ -310,8 +314,7 @@ public final class StrikeOut {
         for (int i = 0; i < DEEDS; i++) {
             for (int j = i + 1; j < DEEDS; j++) {
                 if (isAmong(deeds, i) && isAmong(deeds, j)) {
-                    solveCover((1 << i) | (1 << j));
-                    greatest = Math.max(greatest, cover.first.size);
+                    greatest = Math.max(greatest, coverFor((1 << i) | (1 << j)).first.size);
                 }
             }
         }
@@ -323,7 +326,7 @@ public final class StrikeOut {
             return NONE;
         }
         for (int b = 0; b < blankCount; b++) {
-            if (deeds[i].comesFrom(blanks[b].written)) {
+            if (deedRows[i].comesFrom(blanks[b].written)) {
                 return 0;
             }
         }
@@ -446,13 +449,12 @@ public final class StrikeOut {
             return CANNOT;
         }
         Row rest = blanks[b].rest;
-        tape.size = 0;
-        for (int k = 0; k < n; k++) {
-            if (k >= rest.size || tape.numberAt(k) != rest.at(k)) {
-                return k;
-            }
+        int right = 0;
+        while (right < n && right < rest.size && tape.numberAt(right) == rest.at(right)) {
+            right++;
         }
-        return n < rest.size ? n : NONE;
+        tape.size = 0;
+        return right == n && right == rest.size ? NONE : right;
     }
 
     public int count(int what) {
@@ -460,7 +462,7 @@ public final class StrikeOut {
             return isBlank(what - 10) ? blanks[what - 10].rest.size : NONE;
         }
         if (what >= 20 && what < 20 + DEEDS) {
-            return deeds[what - 20].size;
+            return deedRows[what - 20].size;
         }
         switch (what) {
             case 0: return blankCount;
@@ -486,7 +488,7 @@ public final class StrikeOut {
     }
 
     private boolean isDeed(int i) {
-        return i >= 0 && i < DEEDS && deeds[i].size > 0;
+        return i >= 0 && i < DEEDS && deedRows[i].size > 0;
     }
 
     private static boolean isClerk(int clerk) {
@@ -515,22 +517,22 @@ public final class StrikeOut {
         return (bits & ~toldDeeds()) == 0;
     }
 
-    /** The DEED that is the next behind so many of those told by bits; the last one if there are fewer. */
-    private Row deedOf(int bits, int behind) {
+    /** The DEED with so many ahead of it among those told by bits; the last one if there are fewer. */
+    private Row deedAmong(int bits, int ahead) {
         int last = 0;
         int seen = 0;
-        for (int i = 0; i < DEEDS && seen <= behind; i++) {
+        for (int i = 0; i < DEEDS && seen <= ahead; i++) {
             if (isAmong(bits, i)) {
                 last = i;
                 seen++;
             }
         }
-        return deeds[last];
+        return deedRows[last];
     }
 
     private boolean allCome(int bits, Row row, int without) {
         for (int i = 0; i < DEEDS; i++) {
-            if (isAmong(bits, i) && !deeds[i].comesWithout(row, without)) {
+            if (isAmong(bits, i) && !deedRows[i].comesWithout(row, without)) {
                 return false;
             }
         }
@@ -562,12 +564,6 @@ public final class StrikeOut {
         return cost;
     }
 
-    private int chooseCheapest(int b, int i, int clerk) {
-        Row rest = blanks[b].rest;
-        askLaw(b, 0, rest.size, clerk);
-        return choice.choose(rest, deeds[i]);
-    }
-
     private int countGapStrokes(int kept, int size) {
         int total = 0;
         int from = 0;
@@ -587,7 +583,9 @@ public final class StrikeOut {
 
     // ---- several deeds ----
 
-    private void forgetCover() {
+    /** What was solved for some DEEDS holds till one of them changes. */
+    private void forgetSolved() {
+        hiding.solvedFor = 0;
         if (cover != null) {
             cover.solvedFor = 0;
         }
@@ -600,55 +598,54 @@ public final class StrikeOut {
             return NONE;
         }
         for (int i = 0; i < DEEDS; i++) {
-            if (isAmong(bits, i) && deeds[i].size > COVERED_ROOM) {
+            if (isAmong(bits, i) && deedRows[i].size > COVERED_ROOM) {
                 return CANNOT;
             }
         }
         return 0;
     }
 
-    private void solveCover(int bits) {
-        if (cover == null) {
-            cover = new Cover();
-        }
-        if (cover.solvedFor == bits) {
-            return;
-        }
-        cover.clearParts();
-        for (int i = 0; i < DEEDS; i++) {
-            if (isAmong(bits, i)) {
-                cover.addPart(deeds[i]);
+    private Cover coverFor(int bits) {
+        Cover solved = cover == null ? new Cover() : cover;
+        cover = solved;
+        if (solved.solvedFor != bits) {
+            solved.clearParts();
+            for (int i = 0; i < DEEDS; i++) {
+                if (isAmong(bits, i)) {
+                    solved.addPart(deedRows[i]);
+                }
             }
+            solved.solve();
+            solved.solvedFor = bits;
         }
-        cover.solve();
-        cover.solvedFor = bits;
+        return solved;
     }
 
     private void weighSharing(int bits) {
         for (int i = 0; i < DEEDS; i++) {
             for (int b = 0; b < BLANKS; b++) {
-                boolean comes = isAmong(bits, i) && isBlank(b) && deeds[i].comesFrom(blanks[b].rest);
-                sharing.weigh(i, b, comes ? blanks[b].rest.size - deeds[i].size : NONE);
+                boolean comes = isAmong(bits, i) && isBlank(b) && deedRows[i].comesFrom(blanks[b].rest);
+                sharing.weigh(i, b, comes ? blanks[b].rest.size - deedRows[i].size : NONE);
             }
         }
-        sharing.solve();
+        sharing.solve(blankCount);
     }
 
     /** Whether one DEED can stand behind another in a FAMILY or a CHAIN: like ones only by their numbers. */
     private boolean descends(int i, int parent) {
-        int more = deeds[parent].size - deeds[i].size;
+        int more = deedRows[parent].size - deedRows[i].size;
         if (more < 0 || (more == 0 && parent >= i)) {
             return false;
         }
-        return deeds[i].comesFrom(deeds[parent]);
+        return deedRows[i].comesFrom(deedRows[parent]);
     }
 
     private int findParent(int i, int b, int bits, int w) {
-        int fewest = fits.fewestStrokes(blanks[b].written, deeds[i], w);
+        int fewest = fits.fewestStrokes(blanks[b].written, deedRows[i], w);
         parents[i] = BLANKS;
         for (int j = 0; j < DEEDS; j++) {
             if (isAmong(bits, j) && descends(i, j)) {
-                int needed = fits.fewestStrokes(deeds[j], deeds[i], w);
+                int needed = fits.fewestStrokes(deedRows[j], deedRows[i], w);
                 if (needed < fewest) {
                     fewest = needed;
                     parents[i] = j;
@@ -666,7 +663,7 @@ public final class StrikeOut {
         Arrays.fill(longest, 0);
         for (int size = 1; size <= DEED_ROOM; size++) {
             for (int i = DEEDS - 1; i >= 0; i--) {
-                if (deeds[i].size == size) {
+                if (deedRows[i].size == size) {
                     longest[i] = 1 + longestBehind(i);
                 }
             }
@@ -688,7 +685,7 @@ public final class StrikeOut {
         int most = 0;
         int first = NONE;
         for (int i = 0; i < DEEDS; i++) {
-            if (longest[i] > most && deeds[i].comesFrom(row)) {
+            if (longest[i] > most && deedRows[i].comesFrom(row)) {
                 most = longest[i];
                 first = i;
             }
@@ -744,7 +741,7 @@ public final class StrikeOut {
             }
         }
 
-        /** Number k of those of four bytes; what was fed stays readable while the size is 0. */
+        /** Number k of those of four bytes each. */
         int numberAt(int k) {
             int number = 0;
             if (k >= 0 && k < TAPE_ROOM / 4) {
@@ -1001,7 +998,7 @@ public final class StrikeOut {
             }
         }
 
-        /** Leaps from a step on that have no aim yet belong to the row that ends here: those within are aimed already. */
+        /** Leaps without an aim yet belong to the row that ends here: those of rows within it are aimed already. */
         void aimLeaps(int aSign, int from) {
             for (int k = Math.max(from, 0); k < length; k++) {
                 if (sign[k] == aSign && operand[k] == NONE) {
@@ -1077,28 +1074,22 @@ public final class StrikeOut {
                 push(pop() == 0 ? 1 : 0);
             } else {
                 int right = pop();
+                refused = right == 0 && (aSign == '/' || aSign == '%');
                 push(join(aSign, pop(), right));
             }
         }
 
-        private int join(int aSign, int a, int b) {
+        private static int join(int aSign, int a, int b) {
             switch (aSign) {
                 case '+': return a + b;
                 case '-': return a - b;
                 case '*': return a * b;
+                case '/': return b == 0 ? 0 : a / b;
+                case '%': return b == 0 ? 0 : a % b;
                 case '<': return a < b ? 1 : 0;
                 case '>': return a > b ? 1 : 0;
-                case '=': return a == b ? 1 : 0;
-                default: return divide(aSign, a, b);
+                default: return a == b ? 1 : 0;
             }
-        }
-
-        private int divide(int aSign, int a, int b) {
-            if (b == 0) {
-                refused = true;
-                return 0;
-            }
-            return aSign == '/' ? a / b : a % b;
         }
 
         private void push(int value) {
@@ -1126,20 +1117,24 @@ public final class StrikeOut {
         private static final int MOST_OPEN = 6;
         private static final int MOST_DIGITS = 5;
 
-        private int[] text = null;
+        private final int[] text;
+        private Law into;
         private int end = 0;
         private int at = 0;
         private int fault = 0;
-        private Law into = null;
 
-        /** How many CLAUSES, or the FAULT. */
-        int read(int[] bytes, int n, Law aLaw) {
+        LawReader(int[] bytes, Law first) {
             text = bytes;
-            end = Math.min(n, bytes.length);
-            at = 0;
-            fault = 0;
+            into = first;
+        }
+
+        /** How many CLAUSES the first n bytes have, or the FAULT. */
+        int read(int n, Law aLaw) {
             into = aLaw;
             into.clear();
+            end = Math.min(n, text.length);
+            at = 0;
+            fault = 0;
             boolean more = true;
             for (int c = 0; c <= CLAUSE_ROOM && more; c++) {
                 if (!readClause(c)) {
@@ -1243,10 +1238,6 @@ public final class StrikeOut {
             if (peek() == '(') {
                 return open(depth) && readCondition(depth + 1) && pass(')');
             }
-            return readComparison(depth);
-        }
-
-        private boolean readComparison(int depth) {
             if (!readSum(depth)) {
                 return false;
             }
@@ -1314,13 +1305,13 @@ public final class StrikeOut {
         }
 
         private boolean digitAhead() {
-            return peek() >= '0' && peek() <= '9';
+            return at < end && text[at] >= '0' && text[at] <= '9';
         }
 
         private boolean readNumber() {
             int value = 0;
             for (int digits = 0; digits < MOST_DIGITS && digitAhead(); digits++) {
-                value = value * 10 + peek() - '0';
+                value = value * 10 + text[at] - '0';
                 at++;
             }
             if (digitAhead()) {
@@ -1442,6 +1433,8 @@ public final class StrikeOut {
         private static final int WIDE = DEED_ROOM + 1;
 
         final Row found = new Row(DEED_ROOM);
+        /** The DEEDS (bits) for which all here stands; 0: none. */
+        int solvedFor = 0;
         /** How long the longest is that is hidden in the three from three places on. */
         private final int[] most = new int[WIDE * WIDE * WIDE];
 
@@ -1514,10 +1507,7 @@ public final class StrikeOut {
         private final long[] many = new long[STATES];
 
         Cover() {
-            Arrays.fill(at, 0);
-            for (int d = 0; d < COVERED; d++) {
-                parts[d] = nothing;
-            }
+            clearParts();
         }
 
         void clearParts() {
@@ -1650,11 +1640,13 @@ public final class StrikeOut {
             }
         }
 
-        void solve() {
+        /** Only the first BLANKS are there to be given: the states of others are not asked for. */
+        void solve(int blankCount) {
+            int there = Math.max(0, Math.min(blankCount, BLANKS));
             for (int i = DEEDS - 1; i >= 0; i--) {
-                for (int used = 0; used < STATES; used++) {
+                for (int used = 0; used < 1 << there; used++) {
                     int most = best[(i + 1) * STATES + used];
-                    for (int b = 0; b < BLANKS; b++) {
+                    for (int b = 0; b < there; b++) {
                         most = Math.max(most, withBlank(i, used, b));
                     }
                     best[i * STATES + used] = most;
