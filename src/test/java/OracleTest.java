@@ -869,6 +869,27 @@ public final class OracleTest {
             for (int what = 0; what < 20; what++) same("book" + places(i, what), fast.book(i, what), slow.book(i, what));
     }
 
+    /** Only DEEDS, all letters of the rows that are found for two, three and four of them. */
+    private static void rowsOfDeeds() {
+        random = new Random(run);
+        fast = new StrikeOut();
+        slow = new Slow();
+        told = new StringBuilder();
+        for (int i = 0; i < 4; i++) {
+            String s = letters(1 + any(5), 1 + any(3));
+            feedText(s);
+            same("deed" + places(i, s.length()), fast.deed(i, s.length()), slow.deed(i, s.length()));
+        }
+        for (int bits = 0; bits < 16; bits++) {
+            same("shortestMany(" + bits + ")", fast.shortestMany(bits), slow.shortestMany(bits));
+            for (int what = -1; what < 12; what++) {
+                same("hidden" + places(bits, what), fast.hidden(bits, what), slow.hidden(bits, what));
+                same("shortest" + places(bits, what), fast.shortest(bits, what), slow.shortest(bits, what));
+            }
+            same("bound(" + bits + ")", fast.bound(bits), slow.bound(bits));
+        }
+    }
+
     public static void main(String[] args) {
         int runs = args.length > 0 ? Integer.parseInt(args[0]) : 400;
         for (run = 1; run <= runs && wrong == 0; run++) {
@@ -886,6 +907,7 @@ public final class OracleTest {
             }
             countAll();
         }
+        for (run = 1; run <= runs && wrong == 0; run++) rowsOfDeeds();
         System.out.println(asked + " answers, " + wrong + " of them wrong");
         if (wrong != 0) System.exit(1);
     }

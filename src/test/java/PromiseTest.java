@@ -593,6 +593,7 @@ public final class PromiseTest {
         due("place 15", -1, x.hidden(3, 15));
         due("what -2", -1, x.hidden(3, -2));
         due("of three", 4, x.hidden(7, -1));
+        due("kept for the same DEEDS", 4, x.hidden(7, -1));
         int[] three = {1, 2, 1, 0};
         for (int k = 0; k < 4; k++) due("letter " + k, three[k], x.hidden(7, k));
         due("a row of none", 0, x.hidden(9, -1));
@@ -647,6 +648,11 @@ public final class PromiseTest {
         due("the longest of them", 48, x.shortest(15, -1));
         for (int k = 0; k < 48; k++) due("letter " + k, k / 12, x.shortest(15, k));
         due("no place 48", -1, x.shortest(15, 48));
+        deed(0, some("a", 13));
+        due("13 LETTERS in the first", -2, x.shortest(15, -1));
+        deed(0, "d");
+        deed(7, some("a", 16));
+        due("16 LETTERS in the last", -2, x.shortest(129, -1));
     }
 
     private static void shortestMany() {
@@ -845,6 +851,10 @@ public final class PromiseTest {
         x.strike(0, 2, 3, 0);
         due("as LEFT", 3, x.chain(0, -1));
         due("as LEFT", 0, x.chain(0, 0));
+        blank(some("a", 17));
+        deed(7, some("a", 16));
+        due("sixteen LETTERS, then one", 2, x.chain(1, -1));
+        due("sixteen LETTERS first", 7, x.chain(1, 0));
         for (int i = 0; i < 8; i++) deed(i, "bc");
         due("eight of a kind", 8, x.chain(0, -1));
         for (int k = 0; k < 8; k++) due("place " + k, k, x.chain(0, k));
