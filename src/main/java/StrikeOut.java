@@ -405,7 +405,7 @@ public final class StrikeOut {
     }
 
     public int chain(int b, int what) {
-        if (!isBlank(b)) {
+        if (!isBlank(b) || what < NONE) {
             return NONE;
         }
         measureChains();

@@ -606,10 +606,10 @@ public final class OracleTest {
             }
         }
         int chain(int b, int what) {
-            if (!isB(b)) return -1;
+            if (!isB(b) || what < -1) return -1;
             bestChain = new ArrayList<>();
             chains(blanks.get(b).rest(), new ArrayList<>());
-            return what == -1 ? bestChain.size() : what >= 0 && what < bestChain.size() ? bestChain.get(what) : -2;
+            return what == -1 ? bestChain.size() : what < bestChain.size() ? bestChain.get(what) : -2;
         }
         boolean seed(int s) { if (s < 0 || s > 65535) return false; x = s; return true; }
         int draw(int b, int n) {

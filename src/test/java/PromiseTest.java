@@ -844,8 +844,12 @@ public final class PromiseTest {
         int[] want = {4, 1, 0, 3, 2};
         for (int k = 0; k < 5; k++) due("place " + k, want[k], x.chain(0, k));
         due("place 5", -2, x.chain(0, 5));
-        due("place -2", -2, x.chain(0, -2));
+        due("below NONE", -1, x.chain(0, -2));
+        due("far below NONE", -1, x.chain(0, Integer.MIN_VALUE));
         due("place 8", -2, x.chain(0, 8));
+        due("a place far behind", -2, x.chain(0, Integer.MAX_VALUE));
+        due("no BLANK, no place", -1, x.chain(1, 8));
+        due("no BLANK, below NONE", -1, x.chain(1, -2));
         due("b 1", -1, x.chain(1, -1));
         due("b -1", -1, x.chain(-1, 0));
         x.strike(0, 2, 3, 0);
