@@ -1,38 +1,23 @@
 /** One method for each promise: ordinary inputs, the edges that the document names, and wrong inputs. */
 public final class PromiseTest {
-    private static int wrong = 0;
-    private static int asked = 0;
-    private static int promise = 0;
-    private static StrikeOut x = new StrikeOut();
+    private static Office x = new Office();
 
-    private static void due(String call, long want, long got) {
-        asked++;
-        if (got != want) {
-            wrong++;
-            System.out.println("promise " + promise + ": " + call + " answered " + got + ", due is " + want);
-        }
+    private static void due(String call, long want, long got) { Due.is(call, want, got); }
+
+    private static void due(String call, boolean want, boolean got) { Due.is(call, want, got); }
+
+    private static void start(int promise) {
+        Due.sentence("promise " + promise);
+        x = new Office();
     }
 
-    private static void due(String call, boolean want, boolean got) { due(call, want ? 1 : 0, got ? 1 : 0); }
+    private static void feed(String text) { x.feed(text); }
 
-    private static void start(int number) {
-        promise = number;
-        x = new StrikeOut();
-    }
+    private static int blank(String text) { return x.blank(text); }
 
-    private static void feed(String text) {
-        for (int at = 0; at < text.length(); at += 20) {
-            int[] n = new int[5];
-            for (int k = 0; k < 20; k++) n[k / 4] = n[k / 4] << 8 | (at + k < text.length() ? text.charAt(at + k) : '?');
-            x.feed(n[0], n[1], n[2], n[3], n[4]);
-        }
-    }
+    private static int deed(int i, String text) { return x.deed(i, text); }
 
-    private static int blank(String text) { feed(text); return x.blank(text.length()); }
-
-    private static int deed(int i, String text) { feed(text); return x.deed(i, text.length()); }
-
-    private static int law(String text) { feed(text); return x.law(text.length()); }
+    private static int law(String text) { return x.law(text); }
 
     private static String some(String part, int times) { return part.repeat(times); }
 
@@ -999,7 +984,6 @@ public final class PromiseTest {
         draw();
         check();
         count();
-        System.out.println(asked + " answers, " + wrong + " of them wrong");
-        if (wrong != 0) System.exit(1);
+        Due.end();
     }
 }
