@@ -3,7 +3,9 @@ import java.lang.reflect.Array;
 import java.lang.reflect.Field;
 import java.lang.reflect.Modifier;
 import java.util.ArrayDeque;
+import java.util.ArrayList;
 import java.util.IdentityHashMap;
+import java.util.List;
 import java.util.Map;
 import java.util.Random;
 
@@ -12,7 +14,9 @@ import java.util.Random;
  * and what an object makes in its 512 calls stays small.
  */
 public final class WildTest {
-    private static int wrong = 0;
+    private static final int ABCD = 0x61626364;
+    private static final int EFGH = 0x65666768;
+    private static final int IJKL = 0x696a6b6c;
 
     private static final int[] ODD = {Integer.MIN_VALUE, Integer.MIN_VALUE + 1, -65536, -1001, -1000, -257, -256, -10, -3, -2, -1, 0, 1, 2,
         3, 7, 8, 9, 10, 11, 12, 15, 16, 17, 31, 39, 40, 41, 47, 48, 60, 63, 64, 127, 128, 159, 160, 161, 199, 200, 201, 255, 256, 999, 1000,
@@ -27,14 +31,6 @@ public final class WildTest {
 
     private static int bits(Random random) { return random.nextInt(4) == 0 ? any(random) : random.nextInt(256); }
 
-    private static void feed(StrikeOut x, String text) {
-        for (int at = 0; at < text.length(); at += 20) {
-            int[] n = new int[5];
-            for (int k = 0; k < 20; k++) n[k / 4] = n[k / 4] << 8 | (at + k < text.length() ? text.charAt(at + k) : 'a');
-            x.feed(n[0], n[1], n[2], n[3], n[4]);
-        }
-    }
-
     private static String letters(Random random, int most) {
         StringBuilder s = new StringBuilder();
         int kinds = 1 + random.nextInt(random.nextInt(3) == 0 ? 26 : 3);
@@ -42,13 +38,12 @@ public final class WildTest {
         return s.toString();
     }
 
-    private static long told(StrikeOut x, Random r, int dice) {
-        String s;
+    private static long told(Office x, Random r, int dice) {
         switch (dice) {
-            case 0: s = letters(r, 40); feed(x, s); return x.blank(s.length());
-            case 1: s = letters(r, 16); feed(x, s); return x.deed(r.nextInt(8), s.length());
-            case 2: s = letters(r, 12); feed(x, s); return x.deed(r.nextInt(8), s.length());
-            case 3: s = LAWS[r.nextInt(LAWS.length)]; feed(x, s); return x.law(s.length());
+            case 0: return x.blank(letters(r, 40));
+            case 1: return x.deed(r.nextInt(8), letters(r, 16));
+            case 2: return x.deed(r.nextInt(8), letters(r, 12));
+            case 3: return x.law(LAWS[r.nextInt(LAWS.length)]);
             case 4: return x.feed(any(r), any(r), any(r), any(r), any(r));
             case 5: return x.blank(any(r));
             case 6: return x.deed(any(r), any(r));
@@ -58,7 +53,7 @@ public final class WildTest {
         }
     }
 
-    private static long asked(StrikeOut x, Random r, int dice) {
+    private static long asked(Office x, Random r, int dice) {
         switch (dice) {
             case 0: return x.left(any(r), any(r), any(r));
             case 1: return x.may(any(r), any(r), any(r), any(r));
@@ -86,50 +81,54 @@ public final class WildTest {
         }
     }
 
-    private static long call(StrikeOut x, Random r) {
+    private static long call(Office x, Random r) {
         int dice = r.nextInt(36);
         return dice < 10 ? told(x, r, dice) : asked(x, r, dice - 10);
     }
 
-    /** All that can be asked about the state, as one number. */
-    private static long state(StrikeOut x) {
-        long sum = 0;
-        for (int what = 0; what < 28; what++) sum = sum * 31 + x.count(what);
-        for (int b = 0; b < 8; b++) for (int p = 0; p < 40; p++) sum = sum * 31 + x.left(b, p, 0) * 41 + x.left(b, p, 1);
-        for (int i = 0; i < 60; i++) for (int what = 0; what < 19; what++) sum = sum * 31 + x.book(i, what);
-        for (int b = 0; b < 8; b++) for (int i = 0; i < 8; i++) sum = sum * 31 + x.ways(b, i);
-        return sum;
+    /** What can be asked about the state till the calls of the object are used up. */
+    private static long[] state(Office x) {
+        List<Long> all = new ArrayList<>();
+        for (int what = 0; what < 28; what++) all.add((long) x.count(what));
+        for (int b = 0; b < 8; b++) for (int i = 0; i < 8; i++) if (i % 3 == b % 3) all.add(x.ways(b, i));
+        for (int i = 0; i < 60 && all.get(5) > i; i++) all.add((long) x.book(i, i % 5));
+        for (int p = 0; p < 40; p++)
+            for (int b = 0; b < 8 && x.calls() < Office.MOST_CALLS; b++) if (p < all.get(10 + b)) all.add((long) x.left(b, p, (p + b) % 2));
+        long[] told = new long[all.size()];
+        for (int k = 0; k < told.length; k++) told[k] = all.get(k);
+        return told;
     }
 
     private static void runs() {
         for (int run = 1; run <= 300; run++) {
+            Due.sentence("the same calls give the same answers, run " + run);
             Random r = new Random(run);
             Random again = new Random(run);
-            StrikeOut x = new StrikeOut();
-            StrikeOut y = new StrikeOut();
-            for (int k = 0; k < 512; k++) {
-                long a = call(x, r);
-                long b = call(y, again);
-                if (a != b) { wrong++; System.out.println("run " + run + ", call " + k + ": " + a + " and " + b); }
+            Office x = new Office();
+            Office y = new Office();
+            while (x.calls() < Office.MOST_CALLS - 4) {
+                long answer = call(x, r);
+                Due.is("call " + x.calls(), answer, call(y, again));
             }
-            if (state(x) != state(y)) { wrong++; System.out.println("run " + run + ": two states"); }
         }
     }
 
     /** What only asks leaves the state as it was, whatever it answers; what is refused does, too. */
     private static void refusals() {
-        for (int run = 1; run <= 40; run++) {
+        for (int run = 1; run <= 2000; run++) {
+            Due.sentence("a refused call changes nothing, run " + run);
             Random r = new Random(1000 + run);
-            StrikeOut x = new StrikeOut();
-            for (int k = 0; k < 300; k++) call(x, r);
-            for (int k = 0; k < 100; k++) {
-                long before = state(x);
-                int dice = r.nextInt(23);
-                long answer = asked(x, r, dice);
-                boolean changes = dice == 2 || dice == 3 || dice == 7 || dice == 20;
-                boolean free = dice == 21 ? answer != -2 : changes && answer >= 0;
-                if (!free && state(x) != before) { wrong++; System.out.println("run " + run + ": call of kind " + dice + " changed the state"); }
-            }
+            Random again = new Random(1000 + run);
+            Office x = new Office();
+            Office y = new Office();
+            for (int k = 0; k < 70; k++) call(x, r);
+            for (int k = 0; k < 70; k++) call(y, again);
+            int dice = r.nextInt(23);
+            long answer = asked(x, r, dice);
+            boolean changes = dice == 2 || dice == 3 || dice == 7 || dice == 20;
+            boolean free = dice == 21 ? answer != -2 : changes && answer >= 0;
+            y.count(0);
+            if (!free) Due.same("behind a call of kind " + dice, state(y), state(x));
         }
     }
 
@@ -159,16 +158,17 @@ public final class WildTest {
     }
 
     private static void room() throws Exception {
+        Due.sentence("all calls of one run live in one room");
         long[] fresh = room(new StrikeOut());
         StrikeOut x = new StrikeOut();
-        for (int i = 0; i < 4; i++) { feed(x, "abcdefghijkl"); x.deed(i, 12); }
-        for (int b = 0; b < 8; b++) { feed(x, "abcdefghijklmnopqrstuvwxyzabcdefghijklmn"); x.blank(40); }
-        feed(x, LAWS[0]);
-        x.law(LAWS[0].length());
+        for (int i = 0; i < 4; i++) { x.feed(ABCD, EFGH, IJKL, 0, 0); x.deed(i, 12); }
+        for (int b = 0; b < 8; b++) { x.feed(ABCD, EFGH, IJKL, ABCD, EFGH); x.feed(IJKL, IJKL, EFGH, ABCD, IJKL); x.blank(40); }
+        x.feed('p' << 24 | 'l' << 16 | '*' << 8 | 'i', '(' << 24 | 'f' << 16 | '=' << 8 | '0', ')' << 24, 0, 0);
+        if (x.law(9) != 1) Due.fault("no LAW");
         x.shortest(15, -1);
         long[] used = room(x);
         System.out.println("a new object: " + fresh[0] + " objects, " + fresh[1] + " elements; a used one: " + used[0] + ", " + used[1]);
-        if (fresh[0] > 200 || fresh[1] > 15000 || used[0] > 250 || used[1] > 80000) { wrong++; System.out.println("too large"); }
+        if (fresh[0] > 200 || fresh[1] > 15000 || used[0] > 250 || used[1] > 80000) Due.fault("too large");
         com.sun.management.ThreadMXBean bean = (com.sun.management.ThreadMXBean) ManagementFactory.getThreadMXBean();
         long id = Thread.currentThread().getId();
         for (int k = 0; k < 3; k++) dear(x);
@@ -176,7 +176,7 @@ public final class WildTest {
         dear(x);
         long made = bean.getThreadAllocatedBytes(id) - before;
         System.out.println("made by dear calls: " + made + " bytes");
-        if (made > 2000) { wrong++; System.out.println("calls make too much"); }
+        if (made > 2000) Due.fault("calls make too much");
     }
 
     private static void dear(StrikeOut x) {
@@ -204,7 +204,6 @@ public final class WildTest {
         runs();
         refusals();
         room();
-        System.out.println(wrong == 0 ? "nothing wild happened" : wrong + " faults");
-        if (wrong != 0) System.exit(1);
+        Due.end();
     }
 }
