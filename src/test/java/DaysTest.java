@@ -402,6 +402,12 @@ public final class DaysTest {
             Due.is("wrong " + k, first[k], x.check(0, 3));
             Due.is("the tape is empty", 0, x.count(3));
         }
+        for (int bit = 5; bit < 32; bit++) {
+            x.numbers(1 << bit, 25, 1);
+            Due.is("bit " + bit, 0, x.check(0, 3));
+            x.numbers(0, 25, 1 + (1 << bit));
+            Due.is("bit " + bit, 2, x.check(0, 3));
+        }
         x.numbers(1, 24, 0);
         Due.is("the first of three wrong ones", 0, x.check(0, 3));
         Due.sentence("CHECK: (n: some are lacking)");

@@ -186,6 +186,26 @@ public final class LawTest {
         verdict("n(p=0)", -1002);
     }
 
+    private static void firstBytes() {
+        start("THE LAW by the first n bytes of the tape");
+        String text = "p[12345+1]*2(!i<33&(w>4|m=55));n(12=o-k/d%b)";
+        for (int n = 1; n <= text.length(); n++) {
+            x.feed(text);
+            boolean whole = n == text.length() || text.charAt(n) == ';';
+            int got = x.law(n);
+            if (whole) Due.is("the first " + n + " bytes", n == text.length() ? 2 : 1, got);
+            else Due.is("the first " + n + " bytes", -1000 - n, got);
+        }
+        x.blank("a");
+        x.feed("p1(1=1)p1(1=1)");
+        Due.is("what stands behind them is not asked", 1, x.law(7));
+        x.feed("p12345(1=1)");
+        Due.is("a digit behind the first six", -1006, x.law(6));
+        x.feed("p123456(1=1)");
+        Due.is("a sixth digit behind the first six", -1006, x.law(6));
+        Due.is("the PRICE of the one before", 1, x.may(0, 0, 0, 1));
+    }
+
     private static void noBlanks() {
         start("a TEXT of at most 160 bytes, no blanks");
         String text = "p[l+12]*2(!i<3&(w>4|m=5));n(l=0)";
@@ -605,6 +625,19 @@ public final class LawTest {
         Due.is("at PLACE 1", 5, x.may(0, 1, 0, 1));
     }
 
+    private static void refusedOften() {
+        start("what is REFUSED leaves nothing behind");
+        x.blank(some("a", 40));
+        x.law("n(1+2*[3+4*[5/0]]=1|1=1);p1+2*[3+4*[5%i]](1=1);p3(1=1)");
+        for (int place = 0; place < 40; place++) {
+            Due.is("MAY at " + place, 1, x.may(0, place, 0, 0));
+            Due.is("PRICE at " + place, place == 0 ? 0 : Math.min(99, 7 + 8 * (5 % place)), x.may(0, place, 0, 1));
+        }
+        Due.is("all of the end", 9 * (7 + 8 * 5), x.strike(0, 31, 9, 0));
+        x.law("p1+2*[1+2*[1+2*[1+2*[1+2*[1+0*[1+1]]]]]](1=1)");
+        Due.is("a deep E behind it", 63, x.may(0, 0, 0, 1));
+    }
+
     private static void asMuchAsMatters() {
         start("Of a C as much is asked, from the left, as matters");
         x.blank("ab");
@@ -652,6 +685,7 @@ public final class LawTest {
         stays();
         wrongSigns();
         ends();
+        firstBytes();
         noBlanks();
         digits();
         clauses();
@@ -665,6 +699,7 @@ public final class LawTest {
         comparisons();
         refusedE();
         refusedC();
+        refusedOften();
         asMuchAsMatters();
         deepest();
         Due.end();

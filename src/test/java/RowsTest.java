@@ -138,6 +138,47 @@ public final class RowsTest {
         Due.is("the last stays", 39, x.cheapest(2, 1, 0, 0));
     }
 
+    private static void longestCheapest() {
+        start("CHEAPEST: a DEED of 16 LETTERS of a BLANK of 40");
+        x.blank(some("ab", 20));
+        x.deed(0, some("ab", 8));
+        x.law("p5(w%5=0)");
+        // eight LETTERS at 5 and 32 at 1, of which 16 stay, as many of those at 5 as can
+        int price = x.cheapest(0, 0, 0, -1);
+        Due.is("PRICE", 24, price);
+        int last = -1;
+        int stay = 0;
+        for (int k = 0; k < 16; k++) {
+            int place = x.cheapest(0, 0, 0, k);
+            Due.is("ascending at " + k, true, place > last);
+            Due.is("LETTER " + k, k % 2, x.left(0, place, 0));
+            last = place;
+            stay += place % 5 == 0 ? 5 : 1;
+        }
+        Due.is("what stays and what goes", 8 * 5 + 32, price + stay);
+        x.law("p1(1=1)");
+        for (int k = 0; k < 16; k++) Due.is("of like ones the least, " + k, k, x.cheapest(0, 0, 0, k));
+        Due.is("no LETTER 16", -1, x.cheapest(0, 0, 0, 16));
+        x.law("n(w<24)");
+        Due.is("the first 24 may not go", -2, x.cheapest(0, 0, 0, -1));
+        x.law("n(w>23)");
+        Due.is("the last 16 may not go", 24, x.cheapest(0, 0, 0, -1));
+        for (int k = 0; k < 16; k++) Due.is("they stay, " + k, 24 + k, x.cheapest(0, 0, 0, k));
+        Due.is("DONE", 3, x.done(0, 0, 0));
+        row("LEFT is", some("ab", 8), x.rest(0));
+        x.blank(some("a", 16));
+        x.deed(1, some("a", 16));
+        Due.is("16 of 16", 0, x.cheapest(1, 1, 0, -1));
+        for (int k = 0; k < 16; k++) Due.is("16 of 16, " + k, k, x.cheapest(1, 1, 0, k));
+        x.blank(some("a", 15));
+        Due.is("16 of 15", -2, x.cheapest(2, 1, 0, -1));
+        x.blank(some("a", 17));
+        x.law("p9(w=0);p8(w=16)");
+        Due.is("16 of 17", 1, x.cheapest(3, 1, 0, -1));
+        Due.is("the second but one of the last goes", 16, x.cheapest(3, 1, 0, 15));
+        Due.is("the one ahead of it stays", 14, x.cheapest(3, 1, 0, 14));
+    }
+
     private static void askedNow() {
         start("CHEAPEST: (all asked as it is now)");
         x.blank("aaab");
@@ -332,6 +373,21 @@ public final class RowsTest {
         x.deed(0, "bazc");
         x.deed(1, "zbca");
         row("HIDDEN is", "ba", x.hiddenRow(3));
+        Due.sentence("HIDDEN: the longest row that COMES from each");
+        String[][] threes = {{"abc", "abc", "cba", "a"}, {"bc", "bcb", "bcb", "bc"}, {"abab", "baba", "bbaa", "aa"}, {"abcd", "acbd", "adbc", "ab"},
+            {"aab", "aba", "baa", "aa"}, {"xyzxyz", "zyxzyx", "xxyyzz", "xx"}, {"ab", "ab", "ba", "a"}, {"zab", "abz", "zzab", "ab"}};
+        for (String[] three : threes) {
+            for (int turn = 0; turn < 3; turn++) {
+                for (int i = 0; i < 3; i++) x.deed(i, three[(i + turn) % 3]);
+                row("HIDDEN of " + three[turn] + " and two more", three[3], x.hiddenRow(7));
+            }
+        }
+        x.deed(0, "bc");
+        x.deed(1, "bcb");
+        row("HIDDEN is", "bc", x.hiddenRow(3));
+        x.deed(0, "bcb");
+        x.deed(1, "bc");
+        row("HIDDEN is", "bc", x.hiddenRow(3));
         Due.sentence("HIDDEN: rows of 16");
         x.deed(5, "abcdefghijklmnop");
         x.deed(6, "abcdefghijklmnop");
@@ -391,6 +447,33 @@ public final class RowsTest {
         x.deed(0, "cab");
         x.deed(1, "abc");
         row("of cab and abc", "abcab", x.deed(2, "bca") == 3 ? x.shortestRow(7) : "");
+    }
+
+    private static void howMany() {
+        start("THE SHORTEST: of like ones the first; how many such there are");
+        String[][] rows = {{"ab", "b", "ab", "1"}, {"b", "ab", "ab", "1"}, {"ba", "a", "ba", "1"}, {"a", "ba", "ba", "1"}, {"ab", "aab", "aab", "1"},
+            {"aab", "ab", "aab", "1"}, {"abb", "ab", "abb", "1"}, {"ab", "cb", "acb", "2"}, {"ba", "bc", "bac", "2"}, {"abc", "cba", "abcba", "6"},
+            {"aa", "bb", "aabb", "6"}, {"ab", "cd", "abcd", "6"}, {"zza", "az", "azza", "3"}, {"q", "q", "q", "1"}, {"q", "r", "qr", "2"}};
+        for (String[] two : rows) {
+            x.deed(0, two[0]);
+            x.deed(1, two[1]);
+            row("THE SHORTEST of " + two[0] + " and " + two[1], two[2], x.shortestRow(3));
+            Due.is("how many of " + two[0] + " and " + two[1], Long.parseLong(two[3]), x.shortestMany(3));
+        }
+        x.deed(0, "ab");
+        x.deed(1, "aab");
+        x.deed(2, "abb");
+        x.deed(3, "b");
+        row("of four", "aabb", x.shortestRow(15));
+        Due.is("of four, how many: aabb, abab", 2, x.shortestMany(15));
+        x.deed(0, "a");
+        x.deed(1, "b");
+        x.deed(2, "c");
+        x.deed(3, "d");
+        row("of four apart", "abcd", x.shortestRow(15));
+        Due.is("of four apart, how many", 24, x.shortestMany(15));
+        x.deed(3, "a");
+        Due.is("of three apart, one twice", 6, x.shortestMany(15));
     }
 
     private static void longestShortest() {
@@ -479,6 +562,7 @@ public final class RowsTest {
         comes();
         ways();
         cheapest();
+        longestCheapest();
         askedNow();
         done();
         doneAllOrNone();
@@ -486,6 +570,7 @@ public final class RowsTest {
         even();
         hidden();
         shortest();
+        howMany();
         longestShortest();
         bound();
         forged();

@@ -128,6 +128,13 @@ public final class TermsTest {
         Due.is("no CHEAPEST for CLERK 8", -1, x.cheapest(0, 0, 8, -1));
         Due.is("not DONE by CLERK -1", -1, x.done(0, 0, -1));
         Due.is("not DONE by CLERK 8", -1, x.done(0, 0, 8));
+        for (int clerk : new int[] {Integer.MIN_VALUE, -8, 9, 15, 16, Integer.MAX_VALUE}) {
+            Due.is("no CLERK " + clerk + " MAY", -1, x.may(0, 0, clerk, 0));
+            Due.is("no PRICE for CLERK " + clerk, -1, x.may(0, 0, clerk, 1));
+            Due.is("no STROKE by CLERK " + clerk, -1, x.strike(0, 0, 1, clerk));
+            Due.is("no CHEAPEST for CLERK " + clerk, -1, x.cheapest(0, 0, clerk, -1));
+            Due.is("not DONE by CLERK " + clerk, -1, x.done(0, 0, clerk));
+        }
         Due.is("nothing in THE BOOK", 0, x.count(5));
         for (int clerk = 0; clerk < 8; clerk += 7) {
             Due.is("MAY", 1, x.may(0, 0, clerk, 0));
@@ -278,6 +285,35 @@ public final class TermsTest {
         Due.is("abcdefghijklmnop again", 16, x.rest(1).equals("abcdefghijklmnop") ? 16 : 0);
     }
 
+    private static void writtenAgain() {
+        start("TAKEN BACK: it leaves THE BOOK, and nothing of it stays for the next one");
+        x.blank("abcdefghij");
+        x.blank("abcdefghij");
+        x.law("p50(1=1)");
+        x.day(5);
+        x.strike(0, 1, 9, 7);
+        x.strike(1, 0, 8, 6);
+        x.back(0);
+        x.back(1);
+        x.law("p2(1=1)");
+        x.day(6);
+        for (int i = 0; i < 2; i++) {
+            Due.is("STROKE " + i, 4, x.strike(1 - i, 3, 2, i));
+            Due.is("its BLANK", 1 - i, x.book(i, 0));
+            Due.is("its CLERK", i, x.book(i, 1));
+            Due.is("its DAY", 6, x.book(i, 2));
+            Due.is("what it cost", 4, x.book(i, 3));
+            Due.is("how many", 2, x.book(i, 4));
+            Due.is("its first", 3, x.book(i, 10));
+            Due.is("its last", 4, x.book(i, 11));
+            Due.is("none behind", -1000, x.book(i, 12));
+        }
+        Due.is("all together", 8, x.count(7));
+        Due.is("one TAKEN BACK", 2, x.back(1));
+        Due.is("what is left of THE BOOK", 4, x.count(7));
+        Due.is("DAY of the other", 6, x.book(0, 2));
+    }
+
     private static void takenBackOfMany() {
         start("TAKEN BACK out of a full BOOK");
         x.blank(some("abcd", 10));
@@ -367,6 +403,7 @@ public final class TermsTest {
         mayNot();
         book();
         takenBack();
+        writtenAgain();
         takenBackOfMany();
         aBookFullOfNines();
         objectsApart();
