@@ -171,7 +171,7 @@ public final class WildTest {
         if (fresh[0] > 200 || fresh[1] > 15000 || used[0] > 250 || used[1] > 80000) Due.fault("too large");
         com.sun.management.ThreadMXBean bean = (com.sun.management.ThreadMXBean) ManagementFactory.getThreadMXBean();
         long id = Thread.currentThread().getId();
-        for (int k = 0; k < 3; k++) dear(x);
+        for (int k = 0; k < 2; k++) dear(x);
         long before = bean.getThreadAllocatedBytes(id);
         dear(x);
         long made = bean.getThreadAllocatedBytes(id) - before;
