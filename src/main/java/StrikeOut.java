@@ -40,8 +40,6 @@ public final class StrikeOut {
     /** A DEED that is not told is a row of none. */
     private final Row[] deedRows;
     private Law law;
-    /** A TEXT is read into this one, so that a FAULT leaves the LAW before as it was. */
-    private Law draft;
     private final LawReader reader;
     private final Book pages;
     private int today;
@@ -68,8 +66,7 @@ public final class StrikeOut {
             deedRows[i] = new Row(DEED_ROOM);
         }
         law = new Law();
-        draft = new Law();
-        reader = new LawReader(tape.bytes, draft);
+        reader = new LawReader();
         pages = new Book();
         today = 0;
         drawn = 1;
@@ -136,12 +133,10 @@ public final class StrikeOut {
         if (n < 1 || n > TEXT_ROOM || n > tape.size) {
             return NONE;
         }
-        int answer = reader.read(n, draft);
+        int answer = reader.read(tape.bytes, n);
         tape.size = 0;
         if (answer >= 0) {
-            Law before = law;
-            law = draft;
-            draft = before;
+            law = reader.exchange(law);
         }
         return answer;
     }
@@ -1117,22 +1112,25 @@ public final class StrikeOut {
         private static final int MOST_OPEN = 6;
         private static final int MOST_DIGITS = 5;
 
-        private final int[] text;
-        private Law into;
+        private final int[] text = new int[TEXT_ROOM];
+        /** Not the office's own, so that a FAULT leaves the LAW before as it was. */
+        private Law into = new Law();
         private int end = 0;
         private int at = 0;
         private int fault = 0;
 
-        LawReader(int[] bytes, Law first) {
-            text = bytes;
-            into = first;
+        /** The LAW that was read, for one that is not needed any more. */
+        Law exchange(Law before) {
+            Law told = into;
+            into = before;
+            return told;
         }
 
         /** How many CLAUSES the first n bytes have, or the FAULT. */
-        int read(int n, Law aLaw) {
-            into = aLaw;
+        int read(int[] bytes, int n) {
+            end = Math.max(0, Math.min(n, Math.min(bytes.length, TEXT_ROOM)));
+            System.arraycopy(bytes, 0, text, 0, end);
             into.clear();
-            end = Math.min(n, text.length);
             at = 0;
             fault = 0;
             boolean more = true;

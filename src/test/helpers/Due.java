@@ -32,6 +32,15 @@ final class Due {
         if (wrong <= 50) System.out.println("[" + sentence + "] " + words);
     }
 
+    /** Words to the fault before; long ones only for the first few. */
+    static void note(String words) {
+        if (wrong <= 5) System.out.println(words);
+    }
+
+    static boolean isFine() {
+        return wrong == 0;
+    }
+
     static void end() {
         System.out.println(asked + " answers, " + wrong + " of them wrong");
         if (wrong != 0) System.exit(1);

@@ -6,11 +6,17 @@ final class Office {
     static final int MOST_CALLS = 512;
 
     private final StrikeOut office = new StrikeOut();
+    private final boolean endless;
     private int calls = 0;
+
+    Office() { this(false); }
+
+    /** Endless only where no answer is looked at: no call may throw, whenever it comes. */
+    Office(boolean endless) { this.endless = endless; }
 
     private StrikeOut ask() {
         calls++;
-        if (calls == MOST_CALLS + 1) Due.fault("this test asks more than 512 calls of one object");
+        if (calls == MOST_CALLS + 1 && !endless) Due.fault("this test asks more than 512 calls of one object");
         return office;
     }
 

@@ -113,6 +113,20 @@ public final class WildTest {
         }
     }
 
+    /** What is answered behind the 512th call is free, but a call still ends and never throws. */
+    private static void beyond() {
+        Due.sentence("no call may ever throw, for any arguments in any state");
+        for (int run = 1; run <= 20; run++) {
+            Random r = new Random(5000 + run);
+            Office x = new Office(true);
+            try {
+                while (x.calls() < 3000) call(x, r);
+            } catch (RuntimeException thrown) {
+                Due.fault("run " + run + ", call " + x.calls() + " threw " + thrown);
+            }
+        }
+    }
+
     /** What only asks leaves the state as it was, whatever it answers; what is refused does, too. */
     private static void refusals() {
         for (int run = 1; run <= 2000; run++) {
@@ -202,6 +216,7 @@ public final class WildTest {
 
     public static void main(String[] args) throws Exception {
         runs();
+        beyond();
         refusals();
         room();
         Due.end();
