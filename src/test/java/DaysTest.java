@@ -426,12 +426,16 @@ public final class DaysTest {
         Due.is("one too many", 3, x.check(0, 4));
         x.numbers(0, 25, 0, 0);
         Due.is("one too many, and one wrong", 2, x.check(0, 4));
+        x.numbers(0, 25, 1, -1, -1);
+        Due.is("two too many that are no LETTERS", 3, x.check(0, 5));
         x.strike(0, 0, 1, 0);
         x.numbers(25, 1);
         Due.is("by PLACES of what is LEFT", -1, x.check(0, 2));
         x.strike(0, 0, 2, 0);
         x.numbers(25);
         Due.is("one, though none is LEFT", 0, x.check(0, 1));
+        x.numbers(-1);
+        Due.is("one that is no LETTER, though none is LEFT", 0, x.check(0, 1));
         Due.is("none, and none is LEFT", -1, x.check(0, 0));
         Due.sentence("CHECK: -2: no such one, it has not so many (the tape stays)");
         x.numbers(25);
